@@ -699,7 +699,7 @@ public final class WheatSea {
         }
 
         int highAt(int cell, int hour) {
-            if (cell < 0 || cell >= high.length || hour >= cutHour(cell)) {
+            if (cell < 0 || cell >= high.length || hour >= reap * (cell + 1)) {
                 return 0;
             }
             return high[cell];
@@ -746,7 +746,7 @@ public final class WheatSea {
             for (int round = 0; round < CELLS && next != NONE; round++) {
                 settled |= 1 << next;
                 sailOnFrom(sea, one, next);
-                next = soonestBeside(settled);
+                next = soonestOpen(settled);
             }
         }
 
@@ -759,6 +759,9 @@ public final class WheatSea {
         }
 
         private void sailOnFrom(Sea sea, Hull one, int cell) {
+            if (!isCell(cell)) {
+                return;
+            }
             for (int way = 0; way < WAYS; way++) {
                 int lasts = sea.hoursToSail(one, cell, way, hours[cell]);
                 if (lasts != NONE) {
@@ -779,7 +782,7 @@ public final class WheatSea {
             }
         }
 
-        private int soonestBeside(int settled) {
+        private int soonestOpen(int settled) {
             int best = NONE;
             for (int cell = 0; cell < CELLS; cell++) {
                 boolean open = (settled >> cell & 1) == 0 && hours[cell] != NONE;
@@ -874,12 +877,11 @@ public final class WheatSea {
         /** Goes back from the last sighting, as only what comes behind an hour decides what is possible there. */
         int startsOf(Sea sea, Hull one, int number) {
             int last = lookUp(number);
-            can[last] = may[last];
-            for (int hour = last - 1; hour >= 0; hour--) {
+            for (int hour = last; hour >= 0; hour--) {
                 can[hour] = 0;
                 for (int cell = 0; cell < CELLS; cell++) {
                     boolean allowed = (may[hour] >> cell & 1) == 1;
-                    if (allowed && goesOn(sea, one, cell, hour, last)) {
+                    if (allowed && (hour == last || goesOn(sea, one, cell, hour, last))) {
                         can[hour] |= 1 << cell;
                     }
                 }

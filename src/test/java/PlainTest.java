@@ -200,6 +200,11 @@ public final class PlainTest {
         x.hull(0, 1, 7);
         x.hull(3, 1, 7);
         x.hull(1, 1, 0);
+        WheatSea soon = Due.read("9876,5432,1098;1");
+        due.same("6: cell(0, 1) is told as at HOUR 0, ahead of all cuts", soon.cell(0, 1), 9);
+        soon.pass(1);
+        due.same("6: cell(0, 0), cut at HOUR 1", soon.cell(0, 0), 0);
+        due.same("6: cell(0, 1) stays", soon.cell(0, 1), 9);
         due.same("6: two hulls on a cell", x.cell(7, 3), 2);
         due.same("6: one hull on a cell", x.cell(0, 3), 1);
         due.same("6: no hull on a cell", x.cell(1, 3), 0);
