@@ -164,6 +164,8 @@ public final class AllToldTest {
         x = sailed();
         due.same("24: of hulls", x.digest(), told(x, ""));
         due.same("24: it changes nothing", x.digest(), told(x, ""));
+        // Another object, as what one answers behind 512 calls is free.
+        x = sailed();
         Due.type(x, "123456789012345678");
         x.pass(30);
         x.hull(3, 1, 9);
