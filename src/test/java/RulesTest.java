@@ -1,10 +1,12 @@
-import com.sun.source.tree.AnnotationTree;
 import com.sun.source.tree.AssertTree;
 import com.sun.source.tree.BinaryTree;
 import com.sun.source.tree.ClassTree;
 import com.sun.source.tree.CompilationUnitTree;
+import com.sun.source.tree.CompoundAssignmentTree;
+import com.sun.source.tree.ExpressionTree;
 import com.sun.source.tree.ImportTree;
 import com.sun.source.tree.LambdaExpressionTree;
+import com.sun.source.tree.LiteralTree;
 import com.sun.source.tree.MemberReferenceTree;
 import com.sun.source.tree.MethodInvocationTree;
 import com.sun.source.tree.MethodTree;
@@ -24,7 +26,6 @@ import java.lang.reflect.Constructor;
 import java.lang.reflect.Field;
 import java.lang.reflect.Method;
 import java.lang.reflect.Modifier;
-import java.nio.file.Files;
 import java.nio.file.Path;
 import java.util.Arrays;
 import java.util.HashMap;
@@ -38,24 +39,40 @@ import javax.lang.model.element.Element;
 import javax.lang.model.element.ElementKind;
 import javax.lang.model.element.ExecutableElement;
 import javax.lang.model.element.TypeElement;
+import javax.lang.model.type.ArrayType;
+import javax.lang.model.type.DeclaredType;
+import javax.lang.model.type.TypeKind;
+import javax.lang.model.type.TypeMirror;
 import javax.lang.model.util.Elements;
 import javax.tools.JavaCompiler;
 import javax.tools.StandardJavaFileManager;
 import javax.tools.ToolProvider;
 
-/** The rules of ../shared/LANGUAGE.md, as far as a program can look after them, and the face of the document. */
+/**
+ * The face of the document, and the rules of ../shared/LANGUAGE.md as far as a program can look after them:
+ * what they allow is allowed here, too, whether the class uses it now or not.
+ */
 public final class RulesTest extends TreePathScanner<Void, Void> {
     private static final Path SOURCE = Path.of("src/main/java/WheatSea.java");
-    private static final int MOST_CLASSES = 12;
-    private static final int MOST_FIELDS = 20;
-    private static final int MOST_LINES = 60;
+
+    // "Some twelve", "some twenty" and "some sixty" leave a little room; "at most" leaves none.
+    private static final int MOST_CLASSES = 12 + 2;
+    private static final int MOST_FIELDS = 20 + 2;
+    private static final int MOST_LINES = 60 + 5;
     private static final int MOST_PARAMETERS = 7;
     private static final int MOST_OPEN_CALLS = 8;
-    private static final Set<String> LIBRARY = Set.of("String.length", "String.charAt", "Math.max", "Object.<init>");
+
     private static final List<String> FACE = List.of("about int int", "as int int", "bestWind int int", "blank",
             "cell int int", "count int", "digest", "fault", "forget", "home int int", "hull int int int", "image",
             "junes int int int", "latest int int", "letter int", "pass int", "plain", "restore", "sail int int",
             "see int int int", "start int", "voyage int int int", "wind int");
+    private static final Set<String> TYPES = Set.of("java.lang.String", "java.lang.StringBuilder", "java.lang.Integer",
+            "java.util.ArrayList", "java.util.List", "java.util.Iterator", "java.lang.Iterable", "java.lang.Comparable");
+    private static final Set<String> CONSTANTS = Set.of("int", "long", "boolean", "char", "java.lang.String", "int[]",
+            "long[]", "char[]", "byte[]");
+    private static final Set<String> IMPORTS = Set.of("java.util.ArrayList", "java.util.List", "java.util.Arrays",
+            "java.util.Iterator", "java.util.*");
+    private static final Set<String> LIBRARY = library();
 
     private final Due due = new Due("RulesTest");
     private final Set<String> publicNames = new HashSet<>();
@@ -69,51 +86,80 @@ public final class RulesTest extends TreePathScanner<Void, Void> {
     public static void main(String[] args) throws IOException {
         RulesTest test = new RulesTest();
         test.face();
-        test.signs();
         test.readSource();
         test.scan(test.unit, null);
-        test.holds("at most " + MOST_CLASSES + " classes, not " + test.classes, test.classes <= MOST_CLASSES);
+        test.holds("11: some twelve classes, not " + test.classes, test.classes <= MOST_CLASSES);
         test.openCalls();
         test.due.end();
+    }
+
+    private static Set<String> library() {
+        Set<String> names = new HashSet<>(Set.of("Object.<init>", "System.arraycopy", "Array.clone", "Iterator.hasNext",
+                "Iterator.next", "Iterable.iterator", "Comparable.compareTo", "List.of", "Enum.<init>", "Record.<init>"));
+        all(names, "String", "<init> length charAt isEmpty equals indexOf substring toCharArray");
+        all(names, "StringBuilder", "<init> append charAt setCharAt setLength deleteCharAt reverse length toString");
+        // Where javac finds some of them.
+        all(names, "AbstractStringBuilder", "charAt setCharAt setLength length");
+        all(names, "ArrayList", "<init> add get set remove size isEmpty clear");
+        all(names, "List", "add get set remove size isEmpty clear");
+        all(names, "Arrays", "copyOf copyOfRange fill");
+        return names;
+    }
+
+    private static void all(Set<String> names, String owner, String methods) {
+        for (String method : methods.split(" ")) {
+            names.add(owner + "." + method);
+        }
     }
 
     private void holds(String rule, boolean does) {
         due.same(rule, does ? 1 : 0, 1);
     }
 
+    // ---- the face
+
     private void face() {
         TreeSet<String> methods = new TreeSet<>();
         for (Method method : WheatSea.class.getDeclaredMethods()) {
-            if (!Modifier.isPrivate(method.getModifiers())) {
-                publicNames.add(method.getName());
-                StringBuilder line = new StringBuilder(method.getName());
-                Arrays.stream(method.getParameterTypes()).forEach(type -> line.append(' ').append(type));
-                methods.add(line.toString());
-                Class<?> answer = method.getName().equals("digest") ? long.class : int.class;
-                holds("the type of " + line, method.getReturnType() == answer);
-                holds("public, not static: " + line, method.getModifiers() == Modifier.PUBLIC);
+            if (Modifier.isPrivate(method.getModifiers()) || method.isSynthetic()) {
+                continue;
+            }
+            publicNames.add(method.getName());
+            StringBuilder line = new StringBuilder(method.getName());
+            Arrays.stream(method.getParameterTypes()).forEach(type -> line.append(' ').append(type));
+            methods.add(line.toString());
+            Class<?> answer = method.getName().equals("digest") ? long.class : int.class;
+            holds("1: the type of " + line, method.getReturnType() == answer);
+            holds("1: public, not static: " + line, Modifier.isPublic(method.getModifiers())
+                    && !Modifier.isStatic(method.getModifiers()));
+        }
+        holds("1: the face " + methods, methods.equals(new TreeSet<>(FACE)));
+        constants();
+        int made = 0;
+        for (Constructor<?> constructor : WheatSea.class.getDeclaredConstructors()) {
+            if (!Modifier.isPrivate(constructor.getModifiers()) && !constructor.isSynthetic()) {
+                made++;
+                holds("1: a public constructor of nothing", constructor.getParameterCount() == 0
+                        && Modifier.isPublic(constructor.getModifiers()));
             }
         }
-        holds("the face " + methods, methods.equals(new TreeSet<>(FACE)));
-        Set<String> constants = new TreeSet<>();
-        for (Field field : WheatSea.class.getDeclaredFields()) {
-            if (!Modifier.isPrivate(field.getModifiers())) {
-                constants.add(field.getName());
-                holds(field + " is a public constant",
-                        field.getModifiers() == (Modifier.PUBLIC | Modifier.STATIC | Modifier.FINAL));
-            }
-        }
-        holds("the constants " + constants, constants.equals(Set.of("NONE", "UNKNOWN", "OUTSIDE", "STATE", "FULL")));
-        Constructor<?>[] made = WheatSea.class.getDeclaredConstructors();
-        holds("one public constructor of nothing", made.length == 1 && made[0].getParameterCount() == 0
-                && made[0].getModifiers() == Modifier.PUBLIC);
-        holds("public and final", WheatSea.class.getModifiers() == (Modifier.PUBLIC | Modifier.FINAL));
+        holds("1: one constructor", made == 1);
+        holds("1: public and final", WheatSea.class.getModifiers() == (Modifier.PUBLIC | Modifier.FINAL));
     }
 
-    private void signs() throws IOException {
-        String text = Files.readString(SOURCE);
-        holds("signs 1 to 127 alone", text.chars().allMatch(sign -> sign >= 1 && sign <= 127));
+    private void constants() {
+        Set<String> names = new TreeSet<>();
+        for (Field field : WheatSea.class.getDeclaredFields()) {
+            if (!Modifier.isPrivate(field.getModifiers()) && !field.isSynthetic()) {
+                names.add(field.getName());
+                holds("1: " + field + " is a public constant", field.getType() == int.class
+                        && field.getModifiers() == (Modifier.PUBLIC | Modifier.STATIC | Modifier.FINAL));
+            }
+        }
+        holds("1: the constants " + names, names.equals(Set.of("NONE", "UNKNOWN", "OUTSIDE", "STATE", "FULL")));
     }
+
+    // ---- the source
 
     private void readSource() throws IOException {
         JavaCompiler compiler = ToolProvider.getSystemJavaCompiler();
@@ -124,80 +170,154 @@ public final class RulesTest extends TreePathScanner<Void, Void> {
         task.analyze();
         trees = Trees.instance(task);
         elements = task.getElements();
+        holds("one file without a package line", unit.getPackageName() == null);
+        holds("one class of the face in the file", unit.getTypeDecls().size() == 1);
     }
 
     private void refuse(String what, Tree tree) {
-        long line = unit.getLineMap().getLineNumber(trees.getSourcePositions().getStartPosition(unit, tree));
-        holds("no " + what + " (line " + line + ")", false);
+        holds(what + " (line " + lineOf(tree, true) + ")", false);
+    }
+
+    private long lineOf(Tree tree, boolean first) {
+        long at = first ? trees.getSourcePositions().getStartPosition(unit, tree)
+                : trees.getSourcePositions().getEndPosition(unit, tree);
+        return at < 0 ? 0 : unit.getLineMap().getLineNumber(at);
     }
 
     private Element here(Tree tree) {
         return trees.getElement(TreePath.getPath(unit, tree));
     }
 
+    private TypeMirror typeOf(Tree tree) {
+        return trees.getTypeMirror(TreePath.getPath(unit, tree));
+    }
+
     // ---- what must not stand there
 
     @Override
     public Void visitThrow(ThrowTree tree, Void none) {
-        refuse("throw", tree);
+        refuse("6: no throw", tree);
         return super.visitThrow(tree, none);
     }
 
     @Override
     public Void visitTry(TryTree tree, Void none) {
-        refuse("try", tree);
+        refuse("6: no try", tree);
         return super.visitTry(tree, none);
     }
 
     @Override
     public Void visitSynchronized(SynchronizedTree tree, Void none) {
-        refuse("synchronized", tree);
+        refuse("6: no synchronized", tree);
         return super.visitSynchronized(tree, none);
     }
 
     @Override
     public Void visitAssert(AssertTree tree, Void none) {
-        refuse("assert", tree);
+        refuse("6: no assert", tree);
         return super.visitAssert(tree, none);
     }
 
     @Override
     public Void visitLambdaExpression(LambdaExpressionTree tree, Void none) {
-        refuse("lambda", tree);
+        refuse("2: no lambda", tree);
         return super.visitLambdaExpression(tree, none);
     }
 
     @Override
     public Void visitMemberReference(MemberReferenceTree tree, Void none) {
-        refuse("method reference", tree);
+        refuse("2: no method reference", tree);
         return super.visitMemberReference(tree, none);
     }
 
     @Override
-    public Void visitAnnotation(AnnotationTree tree, Void none) {
-        refuse("annotation: it is not in the list of the library", tree);
-        return super.visitAnnotation(tree, none);
-    }
-
-    @Override
     public Void visitImport(ImportTree tree, Void none) {
-        refuse("import", tree);
-        return super.visitImport(tree, none);
+        String name = tree.getQualifiedIdentifier().toString();
+        holds("4: in the list of the library: import " + name, !tree.isStatic() && IMPORTS.contains(name));
+        // The names in the line itself are no uses.
+        return null;
     }
 
     @Override
     public Void visitTypeCast(TypeCastTree tree, Void none) {
-        holds("casts of numbers alone: " + tree, tree.getType().getKind() == Tree.Kind.PRIMITIVE_TYPE);
+        TypeMirror to = typeOf(tree.getType());
+        holds("6: casts of numbers and among own classes: " + tree, to.getKind().isPrimitive() || isOwn(to));
         return super.visitTypeCast(tree, none);
+    }
+
+    @Override
+    public Void visitLiteral(LiteralTree tree, Void none) {
+        boolean isText = tree.getKind() == Tree.Kind.STRING_LITERAL || tree.getKind() == Tree.Kind.CHAR_LITERAL;
+        if (isText) {
+            String text = String.valueOf(tree.getValue());
+            holds("4: signs 1 to 127: " + tree, text.chars().allMatch(sign -> sign >= 1 && sign <= 127));
+        }
+        return super.visitLiteral(tree, none);
     }
 
     @Override
     public Void visitBinary(BinaryTree tree, Void none) {
         if (tree.getKind() == Tree.Kind.PLUS) {
-            String type = String.valueOf(trees.getTypeMirror(getCurrentPath()));
-            holds("no texts joined by +: " + tree, !type.equals("java.lang.String"));
+            holds("10: no texts joined by +: " + tree, !isText(typeOf(tree)));
+        }
+        if (tree.getKind() == Tree.Kind.EQUAL_TO || tree.getKind() == Tree.Kind.NOT_EQUAL_TO) {
+            holds("6: no two Strings or Integers by == or !=: " + tree,
+                    !isBoxOrText(tree.getLeftOperand()) || !isBoxOrText(tree.getRightOperand()));
         }
         return super.visitBinary(tree, none);
+    }
+
+    @Override
+    public Void visitCompoundAssignment(CompoundAssignmentTree tree, Void none) {
+        holds("10: no texts joined by +=: " + tree, !isText(typeOf(tree.getVariable())));
+        return super.visitCompoundAssignment(tree, none);
+    }
+
+    private static boolean isText(TypeMirror type) {
+        return String.valueOf(type).equals("java.lang.String");
+    }
+
+    private boolean isBoxOrText(ExpressionTree tree) {
+        TypeMirror type = typeOf(tree);
+        return isText(type) || String.valueOf(type).equals("java.lang.Integer");
+    }
+
+    // ---- types
+
+    private boolean isOwn(TypeMirror type) {
+        return type.getKind() == TypeKind.DECLARED
+                && String.valueOf(elements.getBinaryName((TypeElement) ((DeclaredType) type).asElement()))
+                .startsWith("WheatSea");
+    }
+
+    private boolean isAllowed(TypeMirror type) {
+        if (type.getKind().isPrimitive() || type.getKind() == TypeKind.VOID || type.getKind() == TypeKind.TYPEVAR) {
+            return true;
+        }
+        if (type.getKind() == TypeKind.ARRAY) {
+            return isAllowedRow((ArrayType) type);
+        }
+        if (type.getKind() != TypeKind.DECLARED) {
+            return false;
+        }
+        TypeElement element = (TypeElement) ((DeclaredType) type).asElement();
+        return isOwn(type) || TYPES.contains(element.getQualifiedName().toString());
+    }
+
+    /** Of one dimension, or of two dimensions of numbers. */
+    private boolean isAllowedRow(ArrayType row) {
+        TypeMirror of = row.getComponentType();
+        if (of.getKind() == TypeKind.ARRAY) {
+            return ((ArrayType) of).getComponentType().getKind().isPrimitive();
+        }
+        return of.getKind().isPrimitive() || of.getKind() == TypeKind.TYPEVAR || isOwn(of);
+    }
+
+    @Override
+    public Void visitVariable(VariableTree tree, Void none) {
+        TypeMirror type = typeOf(tree);
+        holds("3: the type of " + tree.getName() + ", " + type, isAllowed(type));
+        return super.visitVariable(tree, none);
     }
 
     // ---- what must be so
@@ -206,37 +326,59 @@ public final class RulesTest extends TreePathScanner<Void, Void> {
     public Void visitClass(ClassTree tree, Void none) {
         classes++;
         Element element = here(tree);
-        boolean outer = element.getEnclosingElement().getKind() == ElementKind.PACKAGE;
+        Element around = element.getEnclosingElement();
+        boolean isInside = around.getKind() != ElementKind.PACKAGE;
         Set<javax.lang.model.element.Modifier> modifiers = element.getModifiers();
-        holds("a class inside is static and not public: " + element, outer
+        holds("2: no local or anonymous class: " + element, !isInside || around.getKind().isClass()
+                || around.getKind().isInterface());
+        holds("1: a class inside is static and not public: " + element, !isInside
                 || modifiers.contains(javax.lang.model.element.Modifier.STATIC)
                 && !modifiers.contains(javax.lang.model.element.Modifier.PUBLIC)
                 && !modifiers.contains(javax.lang.model.element.Modifier.PROTECTED));
         int fields = 0;
         for (Tree member : tree.getMembers()) {
-            holds("no block in " + element, member.getKind() != Tree.Kind.BLOCK);
-            if (member instanceof VariableTree field) {
-                boolean isStatic = here(field).getModifiers().contains(javax.lang.model.element.Modifier.STATIC);
-                holds("static is final: " + field, !isStatic
-                        || here(field).getModifiers().contains(javax.lang.model.element.Modifier.FINAL));
-                fields += isStatic ? 0 : 1;
+            holds("5: no static block in " + element, member.getKind() != Tree.Kind.BLOCK
+                    || !((com.sun.source.tree.BlockTree) member).isStatic());
+            if (member instanceof VariableTree) {
+                fields += isConstant((VariableTree) member) ? 0 : 1;
             }
         }
-        holds("at most " + MOST_FIELDS + " fields in " + element, fields <= MOST_FIELDS);
+        holds("11: some twenty fields in " + element, fields <= MOST_FIELDS);
         return super.visitClass(tree, none);
+    }
+
+    private boolean isConstant(VariableTree field) {
+        Element element = here(field);
+        if (!element.getModifiers().contains(javax.lang.model.element.Modifier.STATIC)) {
+            return false;
+        }
+        boolean isOfEnum = element.getEnclosingElement().getKind() == ElementKind.ENUM;
+        holds("5: static is final: " + field, element.getModifiers().contains(javax.lang.model.element.Modifier.FINAL));
+        holds("5: the type of a static: " + field, isOfEnum || CONSTANTS.contains(String.valueOf(element.asType()))
+                || isValuesOfEnum(element));
+        return true;
+    }
+
+    /** Rule 12 lets a class keep an enum's values() once. */
+    private boolean isValuesOfEnum(Element element) {
+        if (element.asType().getKind() != TypeKind.ARRAY) {
+            return false;
+        }
+        TypeMirror of = ((ArrayType) element.asType()).getComponentType();
+        return isOwn(of) && ((DeclaredType) of).asElement().getKind() == ElementKind.ENUM
+                && element.getModifiers().contains(javax.lang.model.element.Modifier.PRIVATE);
     }
 
     @Override
     public Void visitMethod(MethodTree tree, Void none) {
         ExecutableElement method = (ExecutableElement) here(tree);
-        holds("parameters of " + method, method.getParameters().size() <= MOST_PARAMETERS);
-        long first = unit.getLineMap().getLineNumber(Math.max(0, trees.getSourcePositions().getStartPosition(unit, tree)));
-        long last = unit.getLineMap().getLineNumber(Math.max(0, trees.getSourcePositions().getEndPosition(unit, tree)));
-        holds("lines of " + method, last - first < MOST_LINES);
-        if (!method.getModifiers().contains(javax.lang.model.element.Modifier.PUBLIC)) {
-            holds("no public name for " + method, !publicNames.contains(method.getSimpleName().toString()));
+        holds("11: parameters of " + method, method.getParameters().size() <= MOST_PARAMETERS);
+        holds("11: some sixty lines of " + method, lineOf(tree, false) - lineOf(tree, true) < MOST_LINES);
+        holds("3: the type of " + method, isAllowed(method.getReturnType()));
+        if (method.getModifiers().contains(javax.lang.model.element.Modifier.PRIVATE)) {
+            holds("1: no public name for " + method, !publicNames.contains(method.getSimpleName().toString()));
         }
-        holds("nothing of Object: " + method,
+        holds("6: nothing of Object: " + method,
                 !Set.of("equals", "hashCode", "toString").contains(method.getSimpleName().toString()));
         calls.computeIfAbsent(method, key -> new LinkedHashSet<>());
         return super.visitMethod(tree, none);
@@ -250,7 +392,7 @@ public final class RulesTest extends TreePathScanner<Void, Void> {
 
     @Override
     public Void visitNewClass(NewClassTree tree, Void none) {
-        holds("no anonymous class", tree.getClassBody() == null);
+        holds("2: no anonymous class, and no enum's constant with a body of its own", tree.getClassBody() == null);
         called((ExecutableElement) trees.getElement(getCurrentPath()));
         return super.visitNewClass(tree, none);
     }
@@ -259,7 +401,7 @@ public final class RulesTest extends TreePathScanner<Void, Void> {
         TypeElement owner = (TypeElement) method.getEnclosingElement();
         boolean own = String.valueOf(elements.getBinaryName(owner)).startsWith("WheatSea");
         String name = owner.getSimpleName() + "." + method.getSimpleName();
-        holds("in the list of the library: " + name, own || LIBRARY.contains(name));
+        holds("4: in the list of the library: " + name, own || isInLibrary(owner, method, name));
         TreePath path = getCurrentPath();
         while (path != null && !(path.getLeaf() instanceof MethodTree)) {
             path = path.getParentPath();
@@ -270,29 +412,43 @@ public final class RulesTest extends TreePathScanner<Void, Void> {
         }
     }
 
+    private static boolean isInLibrary(TypeElement owner, ExecutableElement method, String name) {
+        boolean isOfNumbers = Set.of("Integer", "Long", "Math").contains(owner.getSimpleName().toString())
+                && method.getModifiers().contains(javax.lang.model.element.Modifier.STATIC)
+                && !name.endsWith("Exact") && isOverWholeNumbers(method);
+        return isOfNumbers || LIBRARY.contains(name);
+    }
+
+    private static boolean isOverWholeNumbers(ExecutableElement method) {
+        boolean are = !method.getParameters().isEmpty();
+        for (Element parameter : method.getParameters()) {
+            are &= parameter.asType().getKind() == TypeKind.INT || parameter.asType().getKind() == TypeKind.LONG;
+        }
+        return are;
+    }
+
     // ---- how many calls stand open
 
     private void openCalls() {
         for (ExecutableElement method : List.copyOf(calls.keySet())) {
             int depth = depthOf(method, new HashSet<>());
-            holds(depth + " calls open below " + method, depth <= MOST_OPEN_CALLS);
+            holds("11: " + depth + " calls open below " + method, depth <= MOST_OPEN_CALLS);
         }
     }
 
+    /** A call of one that is open already is recursion, which rule 8 looks after and this does not. */
     private int depthOf(ExecutableElement method, Set<ExecutableElement> open) {
         if (depths.containsKey(method)) {
             return depths.get(method);
         }
-        holds("no recursion by " + method, open.add(method));
+        open.add(method);
         int deepest = 0;
         for (ExecutableElement next : calls.getOrDefault(method, Set.of())) {
             for (ExecutableElement meant : calls.keySet()) {
-                boolean overrides = meant.equals(next) || elements.overrides(meant, next,
+                boolean isMeant = meant.equals(next) || elements.overrides(meant, next,
                         (TypeElement) meant.getEnclosingElement());
-                if (overrides && !open.contains(meant)) {
+                if (isMeant && !open.contains(meant)) {
                     deepest = Math.max(deepest, depthOf(meant, open));
-                } else if (overrides) {
-                    holds("no recursion by " + method + " and " + meant, false);
                 }
             }
         }
